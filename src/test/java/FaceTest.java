@@ -1,0 +1,127 @@
+import java.io.IOException;
+import java.lang.reflect.Constructor;
+import java.lang.reflect.Field;
+import java.lang.reflect.Method;
+import java.lang.reflect.Modifier;
+import java.nio.file.Files;
+import java.nio.file.Path;
+import java.util.Arrays;
+import java.util.Set;
+import java.util.TreeSet;
+import java.util.regex.Matcher;
+import java.util.regex.Pattern;
+
+/** The public face, told by the document, and those rules of LANGUAGE.md that can be seen in the text. */
+public final class FaceTest {
+    private static final Path MAIN = Path.of("src/main/java/NeedleToTheMissed.java");
+    private static final Path DOCUMENT = Path.of("../shared/DOC.md");
+    private static final Due DUE = new Due();
+
+    public static void main(String[] args) throws IOException {
+        face();
+        nothingElseIsSeen();
+        noPrivateMethodBearsAPublicName();
+        words();
+        shortMethods();
+        DUE.end();
+    }
+
+    private static void face() throws IOException {
+        String document = Files.readString(DOCUMENT);
+        Set<String> told = new TreeSet<>();
+        Matcher m = Pattern.compile("^ {4}public (int|long) (\\w+)\\(([^)]*)\\);", Pattern.MULTILINE).matcher(document);
+        while (m.find()) {
+            told.add(m.group(1) + " " + m.group(2) + "(" + m.group(3).replaceAll(" \\w+(, )?", " ") + ")");
+        }
+        Set<String> there = new TreeSet<>();
+        for (Method method : NeedleToTheMissed.class.getDeclaredMethods()) {
+            if (Modifier.isPublic(method.getModifiers())) {
+                there.add(method.getReturnType() + " " + method.getName() + "("
+                    + "int ".repeat(method.getParameterCount()) + ")");
+            }
+        }
+        DUE.holds("the face is the document's: " + told + " / " + there, told.equals(there) && told.size() == 40);
+        DUE.holds("public and final", NeedleToTheMissed.class.getModifiers() == (Modifier.PUBLIC | Modifier.FINAL));
+        Constructor<?>[] constructors = NeedleToTheMissed.class.getDeclaredConstructors();
+        DUE.holds("one constructor", constructors.length == 1 && constructors[0].getParameterCount() == 0
+            && Modifier.isPublic(constructors[0].getModifiers()));
+    }
+
+    private static void nothingElseIsSeen() {
+        for (Method method : NeedleToTheMissed.class.getDeclaredMethods()) {
+            DUE.holds(method + " is public or private",
+                Modifier.isPublic(method.getModifiers()) || Modifier.isPrivate(method.getModifiers()));
+        }
+        fieldsOf(NeedleToTheMissed.class, true);
+        for (Class<?> inside : NeedleToTheMissed.class.getDeclaredClasses()) {
+            DUE.holds(inside + " is static", Modifier.isStatic(inside.getModifiers()));
+            DUE.holds(inside + " is not public", !Modifier.isPublic(inside.getModifiers()));
+            fieldsOf(inside, false);
+        }
+        DUE.holds("some twelve classes", NeedleToTheMissed.class.getDeclaredClasses().length <= 12);
+    }
+
+    private static void fieldsOf(Class<?> owner, boolean outer) {
+        int changing = 0;
+        for (Field field : owner.getDeclaredFields()) {
+            boolean isStatic = Modifier.isStatic(field.getModifiers());
+            DUE.holds(field + " is private", !outer || Modifier.isPrivate(field.getModifiers()));
+            DUE.holds(field + " is final if static", !isStatic || Modifier.isFinal(field.getModifiers()));
+            changing += isStatic ? 0 : 1;
+        }
+        DUE.holds(owner + " has some twenty fields", changing <= 20);
+    }
+
+    private static void noPrivateMethodBearsAPublicName() {
+        Set<String> names = new TreeSet<>();
+        for (Method method : NeedleToTheMissed.class.getDeclaredMethods()) {
+            DUE.holds(method.getName() + " is there once", names.add(method.getName()));
+        }
+        for (Class<?> inside : NeedleToTheMissed.class.getDeclaredClasses()) {
+            for (Method method : inside.getDeclaredMethods()) {
+                DUE.holds(method + " bears no public name", Arrays.stream(NeedleToTheMissed.class.getDeclaredMethods())
+                    .noneMatch(m -> Modifier.isPublic(m.getModifiers()) && m.getName().equals(method.getName())));
+                DUE.holds(method + " takes seven at most", method.getParameterCount() <= 7);
+            }
+        }
+    }
+
+    private static String withoutComments() throws IOException {
+        String text = Files.readString(MAIN);
+        DUE.holds("plain signs alone", text.chars().allMatch(c -> c < 128));
+        return text.replaceAll("(?s)/\\*.*?\\*/", "").replaceAll("//[^\n]*", "");
+    }
+
+    private static void words() throws IOException {
+        String text = withoutComments();
+        for (String word : new String[] {"throw", "throws", "try", "catch", "finally", "synchronized", "assert",
+            "import", "package", "volatile", "native", "Object", "Exception", "hashCode", "toString", "double", "float"}) {
+            DUE.holds("no word " + word, !Pattern.compile("\\b" + word + "\\b").matcher(text).find());
+        }
+        DUE.holds("no lambda", !text.contains("->"));
+        DUE.holds("no method reference", !text.contains("::"));
+        DUE.holds("no name that ends in Exact", !text.contains("Exact"));
+        DUE.holds("no loop without an end", !Pattern.compile("while \\(true\\)|for \\(;;").matcher(text).find());
+        Set<String> library = new TreeSet<>();
+        Matcher m = Pattern.compile("\\b(Math|Integer|Long|System|Arrays)\\.\\w+").matcher(text);
+        while (m.find()) {
+            library.add(m.group());
+        }
+        DUE.holds("the library's part: " + library, Set.of("Integer.MAX_VALUE", "Integer.bitCount", "Integer.compare",
+            "Math.abs", "Math.max", "Math.min", "System.arraycopy").containsAll(library));
+    }
+
+    private static void shortMethods() throws IOException {
+        int begun = 0;
+        int number = 0;
+        for (String line : Files.readAllLines(MAIN)) {
+            number++;
+            if (line.matches(" {4,8}[\\w].*\\) \\{")) {
+                begun = number;
+            } else if (line.matches(" {4}(?: {4})?\\}") && begun > 0) {
+                DUE.holds("the method before line " + number + " is short", number - begun <= 60);
+                begun = 0;
+            }
+        }
+    }
+}
