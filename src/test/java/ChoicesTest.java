@@ -82,6 +82,9 @@ public final class ChoicesTest {
         x = Due.of("p05;p00;hw61;s03;");
         DUE.is("a drunk", x.sign(0, 0), 5);
         DUE.is("a drunk's time", x.sign(0, 1), 2);
+        // A whaler with 6 would pull 3 against the boy's 2; with 5 it is 2, and a drunk's 4 does it.
+        x = Due.of("p05;p00;hb01;s03;");
+        DUE.is("the FIGURE of him is 5", x.sign(0, 0), 5);
         x = Due.of("p02;p56;hw91;hw91;hw91;");
         DUE.is("none", x.sign(0, 0), -9);
         DUE.is("none's time", x.sign(0, 1), -9);

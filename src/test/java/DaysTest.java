@@ -5,6 +5,7 @@ public final class DaysTest {
     public static void main(String[] args) {
         fourWays();
         straightCourse();
+        toAllSides();
         dayAtMost999();
         awayToTheEdge();
         ashoreDoesNotPull();
@@ -52,11 +53,22 @@ public final class DaysTest {
         DUE.is("door(0)", x.door(0), 0);
         DUE.is("door(1)", x.door(1), 4);
         DUE.is("door(2)", x.door(2), 4);
+        DUE.is("way(1)", x.way(1), 1);
         DUE.is("way(3)", x.way(3), 3);
         DUE.is("way(60)", x.way(60), 4);
         DUE.is("the ship is where it was", x.count(3), 3);
         DUE.is("the day is what it was", x.count(2), 3);
         DUE.is("SEA is what it was", x.count(5), 3);
+    }
+
+    private static void toAllSides() {
+        String[] texts = {"p03;hh00;s59;", "p31;hh00;s24;", "p59;hh00;s03;", "p24;hh00;s31;"};
+        int[] ends = {3, 31, 59, 24};
+        for (int i = 0; i < texts.length; i++) {
+            NeedleToTheMissed x = Due.of(texts[i]);
+            DUE.is("comes by " + texts[i], x.comes(0), 7);
+            DUE.is("days(7) by " + texts[i], x.days(7), ends[i]);
+        }
     }
 
     private static void dayAtMost999() {

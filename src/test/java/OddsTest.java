@@ -66,6 +66,12 @@ public final class OddsTest {
         x.boards(2);
         DUE.is("nobody above", x.mean(0), 0);
         DUE.is("nobody below", x.mean(1), 1);
+        x = Due.of("p00;hh00;d01;hh00;");
+        DUE.is("1, 0 above", x.mean(0), 1);
+        DUE.is("1, 0 below", x.mean(1), 2);
+        x = Due.of("p00;hh00;d07;");
+        DUE.is("7 above", x.mean(0), 7);
+        DUE.is("7 below", x.mean(1), 1);
         x = Due.of("p00;hh00;hh00;");
         DUE.is("0 above", x.mean(0), 0);
         DUE.is("0 below", x.mean(1), 1);
@@ -88,12 +94,29 @@ public final class OddsTest {
         x = Due.of("p27;hh00;");
         DUE.is("all end there", x.lots(20, 99, 0), 20);
         DUE.is("all ends together", x.lots(20, 99, 1), 20 * 27);
+        // From 0 to 63 it is 14 steps: of a start at 51 it comes, of one at 0 it does not.
+        Due.tell(x, "p63;m01;");
+        int ends = 0;
+        for (int z = 0; z < 64; z++) {
+            ends += x.lots(1, seedOfFirst(z), 1) == 63 ? 1 : 0;
+        }
+        DUE.is("all cells but those 13 steps off and 14", ends, 61);
         DUE.is("SEA is what it was", x.count(5), 0);
         DUE.is("the ship is where it was", x.count(3), 0);
         DUE.is("lots(0, 0, 2)", x.lots(0, 0, 2), -4);
         DUE.is("lots(21, 0, 2)", x.lots(21, 0, 2), -6);
         DUE.is("lots(20, 0, 2)", x.lots(20, 0, 2), -2);
         DUE.is("lots(1, 0, -1)", x.lots(1, 0, -1), -2);
+    }
+
+    /** A seed whose first draw below 64 is the cell. */
+    private static int seedOfFirst(int cell) {
+        for (int z = 0; z < 100000; z++) {
+            if (((z * 1664525 + 1013904223) & 0x7fffffff) / 256 % 64 == cell) {
+                return z;
+            }
+        }
+        return -1;
     }
 
     /** The third draw from seed 0: behind the first ship's and one SEA's. */

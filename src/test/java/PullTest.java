@@ -44,6 +44,9 @@ public final class PullTest {
         x.boards(2);
         x.boards(0);
         DUE.is("a master alone", x.strongest(), 4);
+        x.boards(0);
+        DUE.is("the first", x.strongest(), 0);
+        x.boards(0);
         x.boards(4);
         DUE.is("nobody aboard", x.strongest(), -9);
     }

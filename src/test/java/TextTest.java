@@ -68,6 +68,8 @@ public final class TextTest {
         DUE.is("half of 9, cut", x.hand(0, 3), 4);
         DUE.is("misses", x.hand(0, 2), 1);
         DUE.is("aboard again", x.hand(3, 4), 1);
+        DUE.is("m to place 0", Due.tell(x, "m00;"), 1);
+        DUE.is("misses 0", x.hand(0, 2), 0);
         DUE.is("twice told", Due.tell(x, "a3;a3;"), 2);
         DUE.is("aboard still", x.hand(3, 4), 1);
     }
