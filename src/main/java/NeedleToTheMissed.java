@@ -75,10 +75,7 @@ public final class NeedleToTheMissed {
     // ---- the sea told in letters, and what is told of it
 
     public int letter(int c) {
-        int refusal = outside(c, 0, MOST_SIGN);
-        if (refusal == FITS && text.size >= MOST_LETTERS) {
-            refusal = ROOM;
-        }
+        int refusal = firstOf(outside(c, 0, MOST_SIGN), text.size < MOST_LETTERS ? FITS : ROOM);
         if (refusal != FITS) {
             return refuse(refusal);
         }
@@ -87,7 +84,8 @@ public final class NeedleToTheMissed {
     }
 
     public int sea() {
-        int answer = readText();
+        int misfit = text.firstMisfit();
+        int answer = misfit == NONE ? carryOutText() : FAULT_OF_FORM - misfit;
         text.size = 0;
         return answer;
     }
@@ -118,7 +116,7 @@ public final class NeedleToTheMissed {
 
     public int leans(int hand) {
         int refusal = noHand(hand);
-        return refusal != FITS ? refuseSigned(refusal) : now.leanOf(hand);
+        return refusal != FITS ? refuseSigned(refusal) : now.leanNow(hand);
     }
 
     // ---- what changes hands and ship
@@ -173,10 +171,7 @@ public final class NeedleToTheMissed {
     }
 
     public int days(int n) {
-        int refusal = outside(n, 1, MOST_DAYS);
-        if (refusal == FITS && now.day + n > MOST_DAY) {
-            refusal = ROOM;
-        }
+        int refusal = firstOf(outside(n, 1, MOST_DAYS), now.hasTimeFor(n) ? FITS : ROOM);
         if (refusal != FITS) {
             return refuse(refusal);
         }
@@ -333,7 +328,7 @@ public final class NeedleToTheMissed {
         int most = -1;
         int who = NONE;
         for (int hand = 0; hand < now.hands; hand++) {
-            int strength = Math.abs(now.leanOf(hand));
+            int strength = Math.abs(now.leanNow(hand));
             if (now.isAboard(hand) && strength > most) {
                 most = strength;
                 who = hand;
@@ -462,10 +457,7 @@ public final class NeedleToTheMissed {
     }
 
     public int row(int v) {
-        int refusal = outside(v, 0, MOST_NUMBER);
-        if (refusal == FITS && numberCount >= numbers.length) {
-            refusal = ROOM;
-        }
+        int refusal = firstOf(outside(v, 0, MOST_NUMBER), numberCount < numbers.length ? FITS : ROOM);
         if (refusal != FITS) {
             return refuse(refusal);
         }
@@ -597,11 +589,7 @@ public final class NeedleToTheMissed {
 
     // ---- the text becomes a sea
 
-    private int readText() {
-        int misfit = text.firstMisfit();
-        if (misfit != NONE) {
-            return FAULT_OF_FORM - misfit;
-        }
+    private int carryOutText() {
         think();
         int at = 0;
         int statements = 0;
@@ -617,15 +605,20 @@ public final class NeedleToTheMissed {
     }
 
     private boolean obey(int at) {
+        int number = text.twoDigitsAt(at + 1);
         switch (text.signAt(at)) {
             case 'p':
-                return thought.addPlace(text.twoDigitsAt(at + 1));
+                return thought.addPlace(number);
             case 'h':
                 return thought.addHand(kindOf(text.signAt(at + 1)), text.digitAt(at + 2), text.digitAt(at + 3));
             case 's':
-                return obeyShip(text.twoDigitsAt(at + 1));
+                return obeyShip(number);
             case 'd':
-                return obeyDays(text.twoDigitsAt(at + 1));
+                if (!thought.hasTimeFor(number)) {
+                    return false;
+                }
+                thought.goDays(number);
+                return true;
             default:
                 return obeyOfHand(at, text.digitAt(at + 1));
         }
@@ -636,14 +629,6 @@ public final class NeedleToTheMissed {
             return false;
         }
         thought.ship = cell;
-        return true;
-    }
-
-    private boolean obeyDays(int n) {
-        if (n < 1 || n > MOST_DAYS || thought.day + n > MOST_DAY) {
-            return false;
-        }
-        thought.goDays(n);
         return true;
     }
 
@@ -902,7 +887,11 @@ public final class NeedleToTheMissed {
             return steps(ship, cells[place]);
         }
 
-        int leanOf(int hand) {
+        int leanNow(int hand) {
+            return leanOf(hand, stepsTo(longings[hand]));
+        }
+
+        private int leanOf(int hand, int stepsOff) {
             int plain = seas[hand] / 5 + 1;
             switch (kinds[hand]) {
                 case PLAIN_HAND:
@@ -916,7 +905,7 @@ public final class NeedleToTheMissed {
                 case QUARRELLER:
                     return -(plain + figures[hand] / 3);
                 case DRUNK:
-                    return stepsTo(longings[hand]) >= FAR_FOR_A_DRUNK ? plain : 4 * plain;
+                    return stepsOff >= FAR_FOR_A_DRUNK ? plain : 4 * plain;
                 default:
                     return 0;
             }
@@ -926,23 +915,23 @@ public final class NeedleToTheMissed {
             int sum = 0;
             for (int hand = 0; hand < hands; hand++) {
                 if (isAboard(hand) && longings[hand] == place) {
-                    sum += leanOf(hand);
+                    sum += leanNow(hand);
                 }
             }
             return sum;
         }
 
-        /** -1, 0 or 1: the hand's place lies in a lesser, the same or a greater row. */
-        int rowSide(int hand) {
-            return Integer.compare(rowOf(cells[longings[hand]]), rowOf(ship));
+        /** How many rows the hand's place lies beyond the ship's; below 0, short of it. */
+        private int rowsTo(int hand) {
+            return cells[longings[hand]] / SIDE - ship / SIDE;
         }
 
-        int columnSide(int hand) {
-            return Integer.compare(columnOf(cells[longings[hand]]), columnOf(ship));
+        private int columnsTo(int hand) {
+            return cells[longings[hand]] % SIDE - ship % SIDE;
         }
 
         boolean areOpposed(int one, int other) {
-            return rowSide(one) * rowSide(other) < 0 || columnSide(one) * columnSide(other) < 0;
+            return rowsTo(one) * rowsTo(other) < 0 || columnsTo(one) * columnsTo(other) < 0;
         }
 
         void weigh() {
@@ -950,15 +939,17 @@ public final class NeedleToTheMissed {
             columns = 0;
             for (int hand = 0; hand < hands; hand++) {
                 if (isAboard(hand)) {
-                    int lean = leanOf(hand);
-                    rows += lean * rowSide(hand);
-                    columns += lean * columnSide(hand);
+                    int down = rowsTo(hand);
+                    int along = columnsTo(hand);
+                    int lean = leanOf(hand, Math.abs(down) + Math.abs(along));
+                    rows += lean * Integer.compare(down, 0);
+                    columns += lean * Integer.compare(along, 0);
                 }
             }
         }
 
-        int points() {
-            weigh();
+        /** Where the needle points by the sums that weigh() found. */
+        private int course() {
             if (Math.abs(rows) > Math.abs(columns)) {
                 return rows < 0 ? LESSER_ROWS : GREATER_ROWS;
             }
@@ -968,8 +959,14 @@ public final class NeedleToTheMissed {
             return NONE;
         }
 
-        int nextCell() {
-            switch (points()) {
+        int points() {
+            weigh();
+            return course();
+        }
+
+        /** The next cell on a course, or the ship's own where there is none. */
+        int cellOn(int course) {
+            switch (course) {
                 case LESSER_ROWS:
                     return rowOf(ship) > 0 ? ship - SIDE : ship;
                 case GREATER_COLUMNS:
@@ -981,6 +978,10 @@ public final class NeedleToTheMissed {
                 default:
                     return ship;
             }
+        }
+
+        boolean hasTimeFor(int n) {
+            return n >= 1 && n <= MOST_DAYS && day + n <= MOST_DAY;
         }
 
         /** All of a day but the ship's going. */
@@ -996,7 +997,9 @@ public final class NeedleToTheMissed {
         }
 
         boolean goDay() {
-            int next = nextCell();
+            // Not by points(): a level of calls less under every thought.
+            weigh();
+            int next = cellOn(course());
             boolean goes = next != ship;
             ship = next;
             passDay();
@@ -1171,7 +1174,7 @@ public final class NeedleToTheMissed {
                 if (chances[cell] != 0) {
                     voyage.ship = cell;
                     next[cell] += chances[cell];
-                    next[voyage.nextCell()] += chances[cell] * (t - 1);
+                    next[voyage.cellOn(voyage.points())] += chances[cell] * (t - 1);
                 }
             }
             System.arraycopy(next, 0, chances, 0, CELLS);

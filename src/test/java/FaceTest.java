@@ -6,7 +6,9 @@ import java.lang.reflect.Modifier;
 import java.nio.file.Files;
 import java.nio.file.Path;
 import java.util.Arrays;
+import java.util.Map;
 import java.util.Set;
+import java.util.TreeMap;
 import java.util.TreeSet;
 import java.util.regex.Matcher;
 import java.util.regex.Pattern;
@@ -23,6 +25,7 @@ public final class FaceTest {
         noPrivateMethodBearsAPublicName();
         words();
         shortMethods();
+        shallowCalls();
         DUE.end();
     }
 
@@ -109,6 +112,35 @@ public final class FaceTest {
         }
         DUE.holds("the library's part: " + library, Set.of("Integer.MAX_VALUE", "Integer.bitCount", "Integer.compare",
             "Math.abs", "Math.max", "Math.min", "System.arraycopy").containsAll(library));
+    }
+
+    /** Names are there once each, so that the text tells who calls whom. */
+    private static void shallowCalls() throws IOException {
+        Map<String, String> bodies = new TreeMap<>();
+        Matcher m = Pattern.compile("(?ms)^( {4}| {8})(?:(?:public|private|static) )*\\w+ (\\w+)\\([^;{]*\\) \\{\n(.*?)^\\1\\}")
+            .matcher(withoutComments());
+        while (m.find()) {
+            DUE.holds(m.group(2) + " is there once", bodies.put(m.group(2), m.group(3)) == null);
+        }
+        DUE.holds("methods are found", bodies.size() > 90);
+        for (String name : bodies.keySet()) {
+            int depth = depth(name, bodies, 0);
+            DUE.holds(name + " calls eight deep at most: " + depth, depth <= 8);
+        }
+    }
+
+    private static int depth(String name, Map<String, String> bodies, int above) {
+        if (above > 40) {
+            return above;
+        }
+        int deepest = 0;
+        Matcher m = Pattern.compile("(\\w+)\\(").matcher(bodies.get(name));
+        while (m.find()) {
+            if (bodies.containsKey(m.group(1))) {
+                deepest = Math.max(deepest, depth(m.group(1), bodies, above + 1));
+            }
+        }
+        return deepest + 1;
     }
 
     private static void shortMethods() throws IOException {
