@@ -36,6 +36,7 @@ public final class NeedleToTheMissed {
     private static final int DAYS_BY_LOT = 12;
     private static final int SEA_BY_LOT = 40;
     private static final int FIGURE_SIGNED = 5;
+    private static final int ALL_BUT_SIGN_BIT = 0x7fffffff;
 
     private static final int KINDS = 6;
     private static final String KIND_SIGNS = "hbmwqd";
@@ -1187,7 +1188,7 @@ public final class NeedleToTheMissed {
 
         int draw(int below) {
             seed = seed * 1664525 + 1013904223;
-            return below > 0 ? (seed & Integer.MAX_VALUE) / 256 % below : 0;
+            return below > 0 ? (seed & ALL_BUT_SIGN_BIT) / 256 % below : 0;
         }
 
         void startAnew(Voyage voyage) {

@@ -71,6 +71,9 @@ public final class BoundsOfChoicesTest {
         x = Due.of("p05;hh00;hh00;");
         DUE.are(x, "comes(0) 5", "ashore(0) -9");
         DUE.are(x, "ashore(1) -1", "ashore(-1) -1");
+        // Who is ashore stays there: nobody else brings it sooner, though he would if he came aboard.
+        x = Due.of("p05;hh00;hm00;a0;");
+        DUE.are(x, "comes(0) -9", "ashore(0) -9", "boards(0) 1", "comes(0) 5");
     }
 
     private static void ashoreWithinSixty() {
@@ -162,6 +165,8 @@ public final class BoundsOfChoicesTest {
         DUE.are(x, "two(0, 1, 0) 0", "two(0, 1, 1) 10", "two(1, 0, 1) 1");
         DUE.are(Due.of("p31;hh00;d02;hq00;hq00;d08;s27;"), "two(1, 2, 1) 11", "two(1, 2, 0) 0");
         DUE.are(Due.of("p58;p28;hb11;hd40;d39;s51;"), "two(0, 1, 2) -9", "two(0, 1, 0) 0");
+        // A letter to one ashore moves nothing, so that he keeps none.
+        DUE.are(Due.of("p31;hq00;d03;hh00;d05;s27;a1;"), "two(0, 1, 30) 0", "two(1, 0, 30) 0");
     }
 
     private static void twoWithinDays() {

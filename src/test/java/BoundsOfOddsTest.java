@@ -15,6 +15,7 @@ public final class BoundsOfOddsTest {
         lots();
         lotsAreFromNow();
         lotsOfTwo();
+        lotsOfOneAshore();
         DUE.end();
     }
 
@@ -209,6 +210,23 @@ public final class BoundsOfOddsTest {
             many += end == 3 || end == 60 ? 1 : 0;
         }
         DUE.holds("some end at a place, some do not", many > 10 && many < 110);
+    }
+
+    /** Each HAND draws, those ashore, too. */
+    private static void lotsOfOneAshore() {
+        DUE.terms("then SEA of each HAND, by numbers, a DRAW below 40,");
+        NeedleToTheMissed x = Due.of("p03;p60;hb00;hh31;hq90;a0;");
+        for (int seed = 0; seed < 60; seed++) {
+            Draws draws = new Draws(seed);
+            int cell = draws.below(64);
+            draws.below(40);
+            int second = draws.below(40);
+            int third = draws.below(40);
+            NeedleToTheMissed y = Due.of("p03;p60;hh31;hq90;");
+            beAtSea(y, second, third);
+            y.sails(cell);
+            DUE.is("lots(1, " + seed + ", 1), one ashore", x.lots(1, seed, 1), y.days(12));
+        }
     }
 
     /** Both HANDS, aboard with SEA 0, come to have so much: who needs less stays ashore at first. */

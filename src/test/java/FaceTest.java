@@ -110,7 +110,7 @@ public final class FaceTest {
         while (m.find()) {
             library.add(m.group());
         }
-        DUE.holds("the library's part: " + library, Set.of("Integer.MAX_VALUE", "Integer.bitCount", "Integer.compare",
+        DUE.holds("the library's part: " + library, Set.of("Integer.bitCount", "Integer.compare",
             "Math.abs", "Math.max", "Math.min", "System.arraycopy").containsAll(library));
     }
 
