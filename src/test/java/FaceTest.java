@@ -26,6 +26,9 @@ public final class FaceTest {
         words();
         shortMethods();
         shallowCalls();
+        objectsWithTheObjectAlone();
+        divisors();
+        joinedTexts();
         DUE.end();
     }
 
@@ -155,5 +158,36 @@ public final class FaceTest {
                 begun = 0;
             }
         }
+    }
+
+    /** All calls of a run share one room: what a call made would be counted for each call. */
+    private static void objectsWithTheObjectAlone() throws IOException {
+        int made = 0;
+        for (String line : withoutComments().split("\n")) {
+            if (Pattern.compile("\\bnew\\b").matcher(line).find()) {
+                DUE.holds("made with the object: " + line.trim(), line.matches(" {4,8}private final \\S+ \\w+ = new .*;"));
+                made++;
+            }
+            DUE.holds("makes nothing aside: " + line.trim(), !line.matches(".*\\.(clone|values|substring|toCharArray)\\(.*"));
+        }
+        DUE.holds("what is made is found", made >= 10);
+    }
+
+    /** Each divisor is a constant above 0 or looked at just ahead of its use. */
+    private static void divisors() throws IOException {
+        Set<String> found = new TreeSet<>();
+        Matcher m = Pattern.compile("[/%]=?\\s*([\\w.()]+)").matcher(withoutComments());
+        while (m.find()) {
+            found.add(m.group(1));
+        }
+        Set<String> known = Set.of("SIDE", "SIDE)", "2", "3", "3)", "5", "256", "shared", "lesser", "below");
+        for (String divisor : found) {
+            DUE.holds("the divisor " + divisor + " is known not to be 0", known.contains(divisor));
+        }
+        DUE.holds("divisors are found", found.size() >= 6);
+    }
+
+    private static void joinedTexts() throws IOException {
+        DUE.holds("no text joined by +", !Pattern.compile("\"\\s*\\+|\\+=?\\s*\"").matcher(withoutComments()).find());
     }
 }
